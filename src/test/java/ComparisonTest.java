@@ -1,0 +1,180 @@
+/** Long mixed runs of calls, each answer held against that of PlainOthello. */
+public final class ComparisonTest {
+    // A number sequence of our own, so that every run of the test is the same.
+    private static long seed = 20261115;
+
+    private static TurnedDiscs x;
+    private static PlainOthello y;
+    private static String run;
+
+    public static void main(String[] args) {
+        for (int i = 0; i < 60; i++) {
+            mixedRun("game " + i, 300);
+        }
+        for (int i = 0; i < 400; i++) {
+            settledPosition("position " + i);
+        }
+        for (int i = 0; i < 250; i++) {
+            lastSquares("last squares " + i);
+        }
+        Checks.end();
+    }
+
+    private static int below(int bound) {
+        seed = seed * 6364136223846793005L + 1442695040888963407L;
+        return (int) ((seed >>> 33) % bound);
+    }
+
+    private static long anyBits() {
+        return ((long) below(1 << 22) << 42) ^ ((long) below(1 << 22) << 21) ^ below(1 << 22);
+    }
+
+    private static void fresh(String name) {
+        run = name;
+        x = new TurnedDiscs();
+        y = new PlainOthello();
+    }
+
+    private static void same(String call, Checks.Call got, Checks.Call want) {
+        Checks.due(run + ": " + call, Checks.answer(got), Checks.answer(want));
+    }
+
+    private static void mixedRun(String name, int calls) {
+        fresh(name);
+        for (int i = 0; i < calls; i++) {
+            anyCall();
+            sameState();
+        }
+        sameWayBack();
+    }
+
+    private static void anyCall() {
+        int kind = below(40);
+        if (kind < 24) {
+            playSome();
+        } else if (kind < 27) {
+            same("back()", () -> x.back(), () -> y.back());
+        } else if (kind < 30) {
+            int square = below(68) - 2;
+            same("play(" + square + ")", () -> x.play(square), () -> y.play(square));
+        } else if (kind < 32) {
+            int square = below(68) - 2;
+            same("turns(" + square + ")", () -> x.turns(square), () -> y.turns(square));
+        } else if (kind < 36) {
+            sameViews(below(4) - 1);
+        } else if (kind == 36) {
+            sameSearches();
+        } else if (kind == 37) {
+            int n = below(4) - 1;
+            same("count(" + n + ")", () -> x.count(n), () -> y.count(n));
+        } else if (kind == 38 && below(5) == 0) {
+            x.begin();
+            y.begin();
+        } else if (kind == 39 && below(5) == 0) {
+            setSome();
+        }
+    }
+
+    /** One of the moves that may be made, or the pass; with the game over, a new beginning now and then. */
+    private static void playSome() {
+        long moves = y.moves();
+        int square = 64;
+        if (moves != 0) {
+            int skip = below(Long.bitCount(moves));
+            for (int i = 0; i < skip; i++) {
+                moves &= moves - 1;
+            }
+            square = Long.numberOfTrailingZeros(moves);
+        }
+        int chosen = square;
+        same("play(" + chosen + ")", () -> x.play(chosen), () -> y.play(chosen));
+        if (y.over() && below(6) == 0) {
+            sameWayBack();
+        }
+    }
+
+    private static void setSome() {
+        long taken = anyBits() | anyBits();
+        long who = anyBits();
+        long discs0 = taken & who;
+        long discs1 = taken & ~who | (below(4) == 0 ? anyBits() & anyBits() : 0);
+        int player = below(4) - 1;
+        Checks.due(run + ": set(" + discs0 + ", " + discs1 + ", " + player + ")",
+                Checks.answer(() -> x.set(discs0, discs1, player)),
+                Checks.answer(() -> y.set(discs0, discs1, player)));
+    }
+
+    private static void sameState() {
+        same("discs(0)", () -> x.discs(0), () -> y.discs(0));
+        same("discs(1)", () -> x.discs(1), () -> y.discs(1));
+        same("player()", () -> x.player(), () -> y.player());
+        same("made()", () -> x.made(), () -> y.made());
+    }
+
+    private static void sameViews(int player) {
+        same("discs(" + player + ")", () -> x.discs(player), () -> y.discs(player));
+        same("border(" + player + ")", () -> x.border(player), () -> y.border(player));
+        same("safe(" + player + ")", () -> x.safe(player), () -> y.safe(player));
+        same("moves()", () -> x.moves(), () -> y.moves());
+        same("difference()", () -> x.difference(), () -> y.difference());
+        same("over()", () -> x.over() ? 1 : 0, () -> y.over() ? 1 : 0);
+    }
+
+    private static void sameSearches() {
+        same("outcome()", () -> x.outcome(), () -> y.outcome());
+        same("best()", () -> x.best(), () -> y.best());
+        same("finish()", () -> x.finish(), () -> y.finish());
+    }
+
+    private static void sameWayBack() {
+        int steps = y.made();
+        for (int i = 0; i <= steps; i++) {
+            same("back()", () -> x.back(), () -> y.back());
+            sameState();
+        }
+    }
+
+    /** Any position at all, thin or full, with every square asked. */
+    private static void settledPosition(String name) {
+        fresh(name);
+        long taken = below(3) == 0 ? anyBits() : below(2) == 0 ? anyBits() | anyBits() : anyBits() | anyBits() | anyBits();
+        long who = below(2) == 0 ? anyBits() : anyBits() & anyBits();
+        int player = below(2);
+        x.set(taken & who, taken & ~who, player);
+        y.set(taken & who, taken & ~who, player);
+        for (int s = 0; s < 64; s++) {
+            int square = s;
+            same("turns(" + square + ")", () -> x.turns(square), () -> y.turns(square));
+        }
+        sameViews(0);
+        sameViews(1);
+        for (int n = 0; n <= 2; n++) {
+            int length = n;
+            same("count(" + length + ")", () -> x.count(length), () -> y.count(length));
+        }
+        sameState();
+    }
+
+    /** A nearly full board, some with one empty square too many. */
+    private static void lastSquares(String name) {
+        fresh(name);
+        long empty = 0;
+        int wanted = below(8) + (below(10) == 0 ? 1 : 0);
+        while (Long.bitCount(empty) < wanted) {
+            empty |= 1L << below(64);
+        }
+        long who = below(3) == 0 ? anyBits() & anyBits() : anyBits();
+        int player = below(2);
+        x.set(who & ~empty, ~who & ~empty, player);
+        y.set(who & ~empty, ~who & ~empty, player);
+        for (int n = 0; n <= 4; n++) {
+            int length = n;
+            same("count(" + length + ")", () -> x.count(length), () -> y.count(length));
+        }
+        sameViews(0);
+        sameViews(1);
+        sameSearches();
+        sameState();
+        sameWayBack();
+    }
+}
