@@ -27,7 +27,7 @@ public final class TurnedDiscs {
     // a shift from running on into the next row.
     private static final long INNER_COLUMNS = ~(COLUMN_0 | COLUMN_7);
 
-    // What a shift by one square adds to a square's number.
+    // What one step along a line adds to a square's number, or takes from it the other way.
     private static final int ALONG_ROW = 1;
     private static final int ALONG_FALLING = 9;
     private static final int ALONG_COLUMN = 8;
@@ -282,7 +282,7 @@ public final class TurnedDiscs {
         run |= run << shift & yours;
         run |= run << shift & yours;
         run |= run << shift & yours;
-        return run | run << shift & yours;
+        return run | (run << shift & yours);
     }
 
     private static long runDown(long from, long yours, int shift) {
@@ -291,7 +291,7 @@ public final class TurnedDiscs {
         run |= run >>> shift & yours;
         run |= run >>> shift & yours;
         run |= run >>> shift & yours;
-        return run | run >>> shift & yours;
+        return run | (run >>> shift & yours);
     }
 
     private static long rowsFrom(long mine, long yours, int n) {
@@ -322,7 +322,7 @@ public final class TurnedDiscs {
      */
     private static int worth(long mine, long yours, int low, int high, int depth) {
         long left = movesOf(mine, yours);
-        if (depth <= 0 || left == 0 && movesOf(yours, mine) == 0) {
+        if (depth <= 0 || (left == 0 && movesOf(yours, mine) == 0)) {
             return lead(mine, yours);
         }
         if (left == 0) {
@@ -370,7 +370,7 @@ public final class TurnedDiscs {
     }
 
     private static long withNeighbours(long discs) {
-        long sideways = discs | discs << 1 & ~COLUMN_0 | discs >>> 1 & ~COLUMN_7;
+        long sideways = discs | (discs << 1 & ~COLUMN_0) | (discs >>> 1 & ~COLUMN_7);
         return sideways | sideways << 8 | sideways >>> 8;
     }
 

@@ -15,7 +15,11 @@ public final class ComparisonTest {
             settledPosition("position " + i);
         }
         for (int i = 0; i < 250; i++) {
-            lastSquares("last squares " + i);
+            lastSquares("last squares " + i, below(8) + (below(10) == 0 ? 1 : 0), anyBits());
+        }
+        // With few discs of one player some squares stay empty to the end, and outcomes are odd.
+        for (int i = 0; i < 3000; i++) {
+            lastSquares("last squares, few of one " + i, 2 + below(4), anyBits() & anyBits() & anyBits());
         }
         Checks.end();
     }
@@ -156,14 +160,12 @@ public final class ComparisonTest {
     }
 
     /** A nearly full board, some with one empty square too many. */
-    private static void lastSquares(String name) {
+    private static void lastSquares(String name, int emptySquares, long who) {
         fresh(name);
         long empty = 0;
-        int wanted = below(8) + (below(10) == 0 ? 1 : 0);
-        while (Long.bitCount(empty) < wanted) {
+        while (Long.bitCount(empty) < emptySquares) {
             empty |= 1L << below(64);
         }
-        long who = below(3) == 0 ? anyBits() & anyBits() : anyBits();
         int player = below(2);
         x.set(who & ~empty, ~who & ~empty, player);
         y.set(who & ~empty, ~who & ~empty, player);

@@ -222,6 +222,9 @@ public final class PromisesTest {
         }
         Checks.due("what a refused play leaves", Checks.seen(x), before);
         Checks.argument("play(0) when passing is due", () -> at(2L, 1L, 0).play(0));
+        Checks.argument("play(-1) where 63 is a move", () -> at(TWO_CORNERS_0, TWO_CORNERS_1, 0).play(-1));
+        Checks.argument("play(128) where 0 is a move", () -> at(TWO_CORNERS_0, TWO_CORNERS_1, 0).play(128));
+        Checks.argument("play(64) where 0 is a move", () -> at(TWO_CORNERS_0, TWO_CORNERS_1, 0).play(64));
     }
 
     private static void back() {
@@ -284,6 +287,11 @@ public final class PromisesTest {
         for (int n = 0; n < corners.length; n++) {
             Checks.due("count(" + n + ") with two corners", at(TWO_CORNERS_0, TWO_CORNERS_1, 0).count(n), corners[n]);
         }
+        // A pass comes before them.
+        long[] behindAPass = {1, 1, 2, 2, 2};
+        for (int n = 0; n < behindAPass.length; n++) {
+            Checks.due("count(" + n + ") behind a pass", at(TWO_CORNERS_0, TWO_CORNERS_1, 1).count(n), behindAPass[n]);
+        }
         Checks.due("count leaves the row", x.made(), 0);
     }
 
@@ -326,6 +334,10 @@ public final class PromisesTest {
         Checks.noElement("back() before finish", () -> x.back());
         Checks.due("discs(1) as before", x.discs(1), TWO_CORNERS_1);
         Checks.due("finish() beginning with a pass", at(TWO_CORNERS_0, TWO_CORNERS_1, 1).finish(), 4);
+        TurnedDiscs longest = at(-3537858982276237680L, 7036874417768770L, 1);
+        Checks.due("outcome() over seven moves with a pass before each", longest.outcome(), -64);
+        Checks.due("finish() over seven moves with a pass before each", longest.finish(), 14);
+        Checks.due("difference() after them", longest.difference(), 64);
         TurnedDiscs later = at(TWO_CORNERS_0, TWO_CORNERS_1, 0);
         later.play(63);
         Checks.due("finish() behind a move", later.finish(), 2);
@@ -377,13 +389,16 @@ public final class PromisesTest {
         Checks.due("safe(1) of a full board", at(-1L, 0, 1).safe(1), 0);
         long corners = Checks.bits(0, 7, 56, 63);
         Checks.due("safe(1) of the corners", at(0, corners, 0).safe(1), corners);
-        Checks.due("safe(0) of a run from a corner", at(Checks.bits(0, 1, 2, 4), 0, 0).safe(0), Checks.bits(0, 1, 2));
-        Checks.due("safe(0) of a run down from a corner", at(Checks.bits(0, 8, 16, 32), 0, 0).safe(0), Checks.bits(0, 8, 16));
+        long along = Checks.bits(0, 1, 2);
+        Checks.due("safe(0) of a run from a corner", at(along | Checks.bits(4), 0, 0).safe(0), along);
+        long down = Checks.bits(0, 8, 16);
+        Checks.due("safe(0) of a run down from a corner", at(down | Checks.bits(32), 0, 0).safe(0), down);
         Checks.due("safe(0) behind the other one", at(Checks.bits(0, 2), Checks.bits(1), 0).safe(0), Checks.bits(0));
         long wedge = Checks.bits(0, 1, 2, 8, 9, 16);
-        Checks.due("safe(0) of a wedge: 9 lacks its rising diagonal only when 2 or 16 is gone",
-                at(wedge, 0, 0).safe(0), wedge);
-        Checks.due("safe(0) of a wedge without 2 and 16", at(Checks.bits(0, 1, 8, 9), 0, 0).safe(0), Checks.bits(0, 1, 8));
+        Checks.due("safe(0) of a wedge", at(wedge, 0, 0).safe(0), wedge);
+        // Without 2 and 16 nothing holds 9 on its rising diagonal.
+        long corner = Checks.bits(0, 1, 8);
+        Checks.due("safe(0) of a square of four", at(corner | Checks.bits(9), 0, 0).safe(0), corner);
         long lower = Checks.bits(63, 62, 61, 55, 54, 47);
         Checks.due("safe(1) of a wedge below", at(0, lower, 0).safe(1), lower);
         for (int wrong : WRONG_PLAYERS) {
