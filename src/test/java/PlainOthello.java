@@ -8,7 +8,7 @@ import java.util.NoSuchElementException;
  */
 final class PlainOthello {
     private static final int NONE = -1;
-    private static final int[][] DIRECTIONS = {
+    static final int[][] DIRECTIONS = {
         {-1, -1}, {-1, 0}, {-1, 1}, {0, -1}, {0, 1}, {1, -1}, {1, 0}, {1, 1}
     };
 
@@ -214,7 +214,7 @@ final class PlainOthello {
         return bits;
     }
 
-    private static List<Integer> line(int square, int[] direction) {
+    static List<Integer> line(int square, int[] direction) {
         List<Integer> line = new ArrayList<>();
         int r = square / 8 + direction[0];
         int c = square % 8 + direction[1];

@@ -1,34 +1,5 @@
 /** The row of at most 64, which takes games with many passes from thin positions. */
 public final class RowLimitTest {
-    private static final long[] START_A = {524288L, 403701760L};
-    private static final long[] START_B = {67108864L, 137573433344L};
-    private static final long[] START_C = {1048576L, 604504064L};
-
-    // 64 long, and there is a move then.
-    private static final int[] A_MOVE_IS_LEFT = {
-        28, 36, 46, 38, 30, 34, 44, 45, 53, 39, 29, 31, 23, 55, 54, 52, 47, 15, 60, 62, 19, 10,
-        51, 58, 42, 50, 33, 32, 24, 16, 49, 40, 56, 48, 8, 35, 21, 43, 61, 22, 59, 41, 63, 13,
-        57, 20, 25, 64, 17, 64, 9, 64, 2, 1, 0, 64, 7, 64, 3, 64, 14, 64, 11, 64
-    };
-    // 64 long, and there is a pass to be made then.
-    private static final int[] A_PASS_IS_LEFT = {
-        37, 29, 21, 12, 26, 34, 4, 25, 24, 16, 8, 18, 9, 10, 17, 11, 32, 5, 1, 3, 35, 33, 42, 40,
-        48, 2, 41, 0, 13, 56, 64, 49, 64, 36, 43, 51, 50, 52, 53, 61, 64, 60, 64, 6, 64, 14, 64,
-        58, 57, 44, 59, 54, 45, 22, 62, 63, 55, 47, 15, 31, 64, 30, 38, 39
-    };
-    // 57 long, with 7 empty squares and 7 moves to the end.
-    private static final int[] JUST_FITS = {
-        37, 18, 10, 11, 26, 25, 3, 2, 1, 36, 12, 34, 44, 4, 5, 21, 29, 13, 14, 6, 17, 0, 24, 33,
-        35, 32, 9, 8, 40, 16, 42, 48, 64, 41, 64, 15, 7, 23, 31, 22, 64, 30, 64, 46, 38, 50, 55,
-        43, 57, 59, 49, 58, 60, 39, 47, 45, 51
-    };
-    // 58 long, with 7 empty squares and 7 moves to the end.
-    private static final int[] ONE_TOO_MANY = {
-        38, 21, 11, 3, 2, 1, 22, 47, 36, 23, 13, 6, 5, 4, 15, 7, 18, 17, 64, 37, 39, 31, 64, 43,
-        35, 44, 51, 53, 52, 45, 30, 58, 34, 27, 28, 60, 10, 9, 12, 25, 14, 64, 16, 8, 0, 64, 32,
-        24, 33, 40, 48, 64, 41, 49, 42, 50, 59, 57
-    };
-
     public static void main(String[] args) {
         aMoveTooMany();
         aPassTooMany();
@@ -38,28 +9,14 @@ public final class RowLimitTest {
         Checks.end();
     }
 
-    private static TurnedDiscs played(long[] start, int[] squares) {
-        TurnedDiscs x = new TurnedDiscs();
-        x.set(start[0], start[1], 0);
-        for (int square : squares) {
-            x.play(square);
-        }
-        Checks.due("made() of the game", x.made(), squares.length);
+    private static TurnedDiscs played(LongGames game) {
+        TurnedDiscs x = game.played();
+        Checks.due("made() of the game", x.made(), game.length());
         return x;
     }
 
-    private static void wayBack(TurnedDiscs x, long[] start, int[] squares) {
-        for (int i = squares.length - 1; i >= 0; i--) {
-            Checks.due("back() to " + i, x.back(), squares[i]);
-        }
-        Checks.noElement("back() at the start", () -> x.back());
-        Checks.due("discs(0) at the start", x.discs(0), start[0]);
-        Checks.due("discs(1) at the start", x.discs(1), start[1]);
-        Checks.due("player() at the start", x.player(), 0);
-    }
-
     private static void aMoveTooMany() {
-        TurnedDiscs x = played(START_B, A_MOVE_IS_LEFT);
+        TurnedDiscs x = played(LongGames.MOVE_LEFT);
         String before = Checks.seen(x);
         long moves = x.moves();
         Checks.due("there is a move", moves != 0, true);
@@ -76,11 +33,11 @@ public final class RowLimitTest {
         Checks.due("a full row stays as it is", Checks.seen(x), before);
         Checks.due("count(1) looks past the full row", x.count(1), Long.bitCount(moves));
         Checks.due("best() looks past the full row", (moves >>> x.best() & 1) != 0, true);
-        wayBack(x, START_B, A_MOVE_IS_LEFT);
+        LongGames.MOVE_LEFT.dueWayBack(x, 64);
     }
 
     private static void aPassTooMany() {
-        TurnedDiscs x = played(START_A, A_PASS_IS_LEFT);
+        TurnedDiscs x = played(LongGames.PASS_LEFT);
         String before = Checks.seen(x);
         Checks.due("no move", x.moves(), 0);
         Checks.due("not over", x.over(), false);
@@ -91,11 +48,11 @@ public final class RowLimitTest {
         Checks.due("a full row stays as it is", Checks.seen(x), before);
         Checks.due("back()", x.back(), 39);
         x.play(39);
-        wayBack(x, START_A, A_PASS_IS_LEFT);
+        LongGames.PASS_LEFT.dueWayBack(x, 64);
     }
 
     private static void finishThatFits() {
-        TurnedDiscs x = played(START_A, JUST_FITS);
+        TurnedDiscs x = played(LongGames.FINISH_TO_64);
         int outcome = x.outcome();
         int sign = x.player() == 0 ? 1 : -1;
         Checks.due("finish() up to 64", x.finish(), 7);
@@ -105,22 +62,22 @@ public final class RowLimitTest {
         for (int i = 0; i < 7; i++) {
             x.back();
         }
-        wayBack(x, START_A, JUST_FITS);
+        LongGames.FINISH_TO_64.dueWayBack(x, 57);
     }
 
     private static void finishTooLong() {
-        TurnedDiscs x = played(START_C, ONE_TOO_MANY);
+        TurnedDiscs x = played(LongGames.FINISH_TO_65);
         TurnedDiscs alike = new TurnedDiscs();
         alike.set(x.discs(0), x.discs(1), x.player());
         Checks.due("finish() with an empty row", alike.finish(), 7);
         String before = Checks.seen(x);
         Checks.state("finish() up to 65", () -> x.finish());
         Checks.due("what it leaves", Checks.seen(x), before);
-        wayBack(x, START_C, ONE_TOO_MANY);
+        LongGames.FINISH_TO_65.dueWayBack(x, 58);
     }
 
     private static void fullRowOfAGameThatIsOver() {
-        TurnedDiscs x = played(START_A, JUST_FITS);
+        TurnedDiscs x = played(LongGames.FINISH_TO_64);
         x.finish();
         Checks.due("finish() of a game that is over", x.finish(), 0);
         Checks.due("made()", x.made(), 64);
