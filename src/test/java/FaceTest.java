@@ -5,7 +5,10 @@ import java.lang.reflect.Modifier;
 import java.util.Set;
 import java.util.TreeSet;
 
-/** The public face is the document's, to the last word, and nothing else can be seen. */
+/**
+ * The public face is the document's, to the last word, nothing else can be seen, and objects share
+ * no state: what stands outside them are constants.
+ */
 public final class FaceTest {
     private static final Set<String> METHODS = Set.of(
             "public void TurnedDiscs.begin()",
@@ -48,6 +51,12 @@ public final class FaceTest {
         for (Field f : TurnedDiscs.class.getDeclaredFields()) {
             if (!Modifier.isPrivate(f.getModifiers())) {
                 fields.add(f.toString());
+            }
+        }
+        for (Field f : TurnedDiscs.class.getDeclaredFields()) {
+            if (Modifier.isStatic(f.getModifiers())) {
+                boolean constant = Modifier.isFinal(f.getModifiers()) && f.getType().isPrimitive();
+                Checks.due("a constant: " + f.getName(), constant, true);
             }
         }
         Checks.due("the constants", fields.toString(), new TreeSet<>(FIELDS).toString());
